@@ -1197,7 +1197,7 @@ public final class LabelsOfLines {
             }
             trial.copyFrom(net);
             int statements = 0;
-            for (int at = 0; at < count; at += 2 + digitsBehind(signs[at])) {
+            for (int at = 0; at < count; at += 2 + Math.max(0, digitsBehind(signs[at]))) {
                 if (!comes(at)) {
                     return -2000 - at;
                 }

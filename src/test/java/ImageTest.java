@@ -160,6 +160,8 @@ public final class ImageTest {
         DUE.is("38 labels of all", x.count(4), 107);
         x.drop();
         DUE.is("38 labels of those that are", x.count(4), 106);
+        LabelsOfLines full = Due.of("n1;l000;l000;l000;l000;l000;l000;l000;l000;v701;v002;");
+        DUE.is("38 labels of eight", full.count(4), 3);
         int[] others = {-1, 5, 6, 9, 10, 17, 18, Integer.MIN_VALUE, Integer.MAX_VALUE};
         for (int what : others) {
             DUE.is("38 count(" + what + ")", x.count(what), -9);

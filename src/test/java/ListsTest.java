@@ -27,8 +27,10 @@ public final class ListsTest {
         DUE.is("28 n 0", x.list(0, 0), 1);
         DUE.is("28 n 40", x.list(2, 40), 1);
         DUE.is("28 the last place", x.put(2, 39, 5), 1);
+        x.put(2, 0, 6);
         DUE.is("28 anew", x.list(2, 40), 1);
         DUE.is("28 all 0", x.look(2, 39), 0);
+        DUE.is("28 all 0 from place 0 on", x.look(2, 0), 0);
         DUE.is("28 the others stay", x.look(1, 0), LONG + 11);
         x.put(2, 1, 8);
         DUE.is("28 -14 leaves it", x.list(2, -2), -14);
@@ -124,6 +126,9 @@ public final class ListsTest {
         DUE.is("33 the list stays", x.look(0, 0), 99);
         DUE.is("33 -1 counted", x.count(11), 2);
         DUE.is("33 -3 counted", x.count(13), bad.length);
+        Due.fill(x, 0, 3, 4, 1000);
+        Due.fill(x, 0, 5, 6);
+        DUE.is("33 what a longer one told is no more", x.gives(0), 2);
         LabelsOfLines bare = new LabelsOfLines();
         bare.list(0, 0);
         DUE.is("33 none without lines", bare.gives(0), 0);

@@ -54,9 +54,25 @@ public final class SumsAndRulesTest {
                 DUE.is("14 rule(" + rule + ") of row " + i, x.rule(rule), bits[i] >> rule & 1);
             }
         }
+        rulesOfSevenPoints();
         DUE.is("14 rule 6", x.rule(6), -2);
         DUE.is("14 rule -1", x.rule(-1), -2);
         DUE.is("14 -2 counted", x.count(12), 2);
+    }
+
+    private static void rulesOfSevenPoints() {
+        LabelsOfLines x = Due.of("n7;l100;l111;l122;l133;l144;l155;l166;l166;");
+        Due.tell(x, "v102;v204;v306;v408;v510;v612;v702;");
+        int[] due = {0, 1, 1, 1, 1, 0};
+        for (int rule = 0; rule < 6; rule++) {
+            DUE.is("14 seven points: rule(" + rule + ")", x.rule(rule), due[rule]);
+        }
+        DUE.is("15 seven points: the first", x.ranked(0), 6);
+        DUE.is("15 seven points: the last", x.ranked(6), 0);
+        DUE.is("15 seven points: no more", x.ranked(7), -9);
+        DUE.is("13 seven points", x.total(), 44);
+        x.label(7, 3);
+        DUE.is("14 above twice seven", x.rule(4), 0);
     }
 
     private static void rulesOfOnePoint() {
@@ -157,6 +173,7 @@ public final class SumsAndRulesTest {
         LabelsOfLines far = Due.of("n3;l001;l001;");
         DUE.is("17 a point without lines, r 0", far.magic(0, -1, 0), 1);
         DUE.is("17 a point without lines, r 2", far.magic(2, -1, 0), 0);
+        DUE.is("17 the first point without lines", Due.of("n2;l111;").magic(2, -1, 0), 0);
         LabelsOfLines one = Due.of("n2;l101;l101;");
         DUE.is("17 a point of weight 0, r 0", one.magic(0, -1, 0), 1);
         DUE.is("17 a point of weight 0, r 1", one.magic(1, -1, 0), 0);
@@ -203,6 +220,7 @@ public final class SumsAndRulesTest {
         DUE.is("19 a third-of-square row", Due.of("n1;l100;l100;l100;").settled(), 2);
         DUE.is("19 a like row", Due.of("n1;l100;").settled(), 0);
         DUE.is("19 a straight row", Due.of("n2;l001;l001;l100;").settled(), 1);
+        DUE.is("19 squares", Due.of("n2;l100;l100;l111;l111;").settled(), 2);
         DUE.is("19 without lines", new LabelsOfLines().settled(), 6);
         DUE.is("19 six at most", Due.of("n1;l000;").settled(), 6);
         DUE.is("19 six lines", Due.of("n1;l100;l100;l100;l100;l100;l100;").settled(), 5);

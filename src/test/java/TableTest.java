@@ -33,6 +33,10 @@ public final class TableTest {
         rankIs("n7;l400;l411;l422;l433;l444;l455;l466;l401;f09;f19;f29;f39;f49;f59;f69;", 7, 1);
         rankIs("n7;l001;l012;l023;l034;l045;l056;", 6, 0);
         rankIs("n3;l020;l121;l112;", 3, 0);
+        rankIs("n7;l001;l001;l001;l001;l001;l001;l001;l001;", 1, 7);
+        // The first row is all 0, the others are (1, 1) and (0, 1).
+        rankIs("n3;l111;l012;", 2, 0);
+        rankIs("n4;l133;l023;l012;l001;", 4, 0);
         LabelsOfLines x = Due.of("n3;l001;v099;");
         x.turn(0, 2, 9);
         DUE.is("24 labels don't matter", x.rank(0), 1);
